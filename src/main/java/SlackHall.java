@@ -173,9 +173,6 @@ public final class SlackHall {
             throws IndexOutOfBoundsException, IllegalArgumentException {
         mustExist(chip.hasNode(start) && chip.hasNode(node) && chip.hasCorner(corner));
         mustFit(chip.nodes[start].isStart());
-        if (!analysis.paths().reaches(start, node)) {
-            return -1.0;
-        }
         return analysis.timing(corner, isLate).arrivalOf(start, node, isRise ? RISE : FALL);
     }
 

@@ -258,7 +258,9 @@ public final class PromiseTest {
         isArgument("9 quarters 21", x, () -> x.skew(2, 21));
         isArgument("9 quarters -1", x, () -> x.skew(2, -1));
         SlackHall y = latches(4, 4);
+        double late = y.left(0, 3, 0, true);
         same("9 a latch", y.skew(3, 1), 0);
+        same("9 told anew", y.left(0, 3, 0, true), late + 0.25);
         x.sign(true);
         isState("9 signed", x, () -> x.skew(9, 99));
     }
@@ -516,6 +518,9 @@ public final class PromiseTest {
         same("19 that early", x.left(0, flop, 1, false), 2.0 * 0.75 - 3.5 * 1.75 - 0.25 - 0.5 + 1.0 * 2.0);
         x.feed(flop, 2);
         same("19 the same clock", x.left(2, flop, 1, true), 24.0 - 0.25 - 1.0 + 3.5 * 0.75 - 3.5 * 1.75 + 3.5);
+        int slow = x.node(FLOP, 0, 0, 0);
+        x.feed(slow, 2);
+        same("19 credit of the smaller", x.left(2, slow, 1, true), 12.0 - 0.25 - 1.0 + 2.0 * 0.75 - 3.5 * 1.75 + 2.0);
         x.feed(flop, 1);
         same("19 unlike roots", x.left(1, flop, 1, true), 3.0 - 0.25 - 1.0 + 3.5 * 0.75 - 1.0 * 1.75);
         x.feed(flop, 3);
@@ -599,6 +604,29 @@ public final class PromiseTest {
         x.exception(2, 0, NONE);
         same("21 a small lack", x.borrow(4, 0), 0.125);
         same("21 is lent in whole", x.left(0, 4, 0, true), 0.0);
+        promise21Less();
+    }
+
+    private static void promise21Less() {
+        SlackHall x = new SlackHall();
+        x.clock(20, 0, 0, 0);
+        x.clock(20, 0, 0, 0);
+        x.node(FLOP, 0, 0, 0);
+        x.node(FLOP, 0, 0, 1);
+        x.node(XOR, 0, 1, 0);
+        x.wire(2, 80);
+        x.node(LATCH, 2, 0, 0);
+        x.wire(0, 80);
+        x.wire(1, 40);
+        // XOR of 20.5: 8.75; FLOPS of 20.5 and 10.5: 10.75 and 6.4375; of 20.0 less 1.0 lacks 0.5 and nothing.
+        same("21 one lacks", x.borrow(3, 0), 0.5);
+        same("21 the one", x.left(0, 3, 0, true), 0.0);
+        same("21 the other", x.left(1, 3, 0, true), 3.8125);
+        x.skew(1, 16);
+        same("21 both lack, one less", x.borrow(3, 0), 0.5);
+        same("21 the one again", x.left(0, 3, 0, true), 0.0);
+        same("21 the less, 0.0 at most", x.left(1, 3, 0, true), 0.0);
+        same("21 early ones are lent nothing", x.left(1, 3, 0, false), 0.75 * (6.4375 + 8.75) + 4.0 - 0.5);
     }
 
     private static void promise22Ways() {
@@ -685,6 +713,37 @@ public final class PromiseTest {
         z.size(3, 4);
         // NOR by 4: 0.4375, 0.328125; BUF and INV of 3.0: 1.75, 1.3125. RISE: 3.5 + 1.3125 + 0.4375; FALL: 3.5 + 1.75 + 0.328125.
         same("23 fall is greater: by buf", z.worst(4, 1), 1);
+        promise23Same();
+        promise23Corner();
+    }
+
+    private static void promise23Same() {
+        SlackHall x = new SlackHall();
+        x.clock(10, 0, 0, 0);
+        x.node(FLOP, 0, 0, 0);
+        x.node(BUF, 0, 0, 0);
+        x.node(INV, 0, 0, 0);
+        x.node(NOR, 1, 2, 0);
+        x.node(LATCH, 3, 0, 0);
+        // As above, but the NOR has a LOAD of 1.5: 1.375, 1.03125.
+        same("23 rise", x.arrival(0, 3, 0, true, true), 5.90625);
+        same("23 fall, the same", x.arrival(0, 3, 0, true, false), 5.90625);
+        same("23 rise of both: by inv", x.worst(4, 1), 2);
+    }
+
+    private static void promise23Corner() {
+        SlackHall x = new SlackHall();
+        x.clock(10, 8, 0, 0);
+        x.clock(10, 8, 0, 0);
+        x.corner(16, 8);
+        x.node(FLOP, 0, 0, 0);
+        x.node(FLOP, 0, 0, 1);
+        x.node(XOR, 0, 1, 0);
+        x.node(OUT, 2, 0, 0);
+        x.wire(0, 5);
+        // The CREDIT of 2.0 helps the START 0 in the CORNER 1 alone.
+        same("23 other start in the corner 1", x.leftAt(3, 1, true), x.left(1, 3, 1, true));
+        same("23 in the corner 0", x.worst(3, 1), 0);
     }
 
     private static void promise24Many() {
