@@ -7,7 +7,7 @@ public final class SlackHall {
 
     private static final int NONE = -1;
 
-    // A whole number, since the language keeps no double constants; it is 99999.0 wherever it is answered.
+    // A whole number, since LANGUAGE.md lets no constant be a double; it is 99999.0 wherever it is answered.
     private static final int FREE = 99999;
 
     private static final int MOST_CLOCKS = 4;

@@ -622,6 +622,8 @@ public final class PromiseTest {
         same("21 one lacks", x.borrow(3, 0), 0.5);
         same("21 the one", x.left(0, 3, 0, true), 0.0);
         same("21 the other", x.left(1, 3, 0, true), 3.8125);
+        x.skew(1, 15);
+        same("21 what hardly lacks nothing stays", x.left(1, 3, 0, true), 0.0625);
         x.skew(1, 16);
         same("21 both lack, one less", x.borrow(3, 0), 0.5);
         same("21 the one again", x.left(0, 3, 0, true), 0.0);
