@@ -85,28 +85,14 @@ public final class Promises10To12Test extends Sentences {
     @Sentence(promise = 10, says = "Throws IllegalArgumentException if sort is not 0 or 2 to 4,"
             + " from is no START, or to is no FLOP, LATCH or OUT")
     static void fromIsAStart() {
-        for (int kind = 0; kind <= 8; kind++) {
-            int from = kind;
-            if (kind == IN || kind == FLOP || kind == LATCH) {
-                fits(Sentences::kinds, "from " + kind, x -> x.exception(0, from, NONE));
-            } else {
-                isArgument(Sentences::kinds, "from " + kind, x -> x.exception(0, from, NONE));
-                isArgument(Sentences::kinds, "from " + kind + " to 8", x -> x.exception(2, from, 8));
-            }
-        }
+        startsAlone("from", (x, from) -> x.exception(0, from, NONE));
+        startsAlone("from, to an OUT", (x, from) -> x.exception(2, from, 8));
     }
 
     @Sentence(promise = 10, says = "or to is no FLOP, LATCH or OUT")
     static void toIsAFlopLatchOrOut() {
-        for (int kind = 0; kind <= 8; kind++) {
-            int to = kind;
-            if (kind == FLOP || kind == LATCH || kind == OUT) {
-                fits(Sentences::kinds, "to " + kind, x -> x.exception(0, NONE, to));
-            } else {
-                isArgument(Sentences::kinds, "to " + kind, x -> x.exception(0, NONE, to));
-                isArgument(Sentences::kinds, "from 0 to " + kind, x -> x.exception(2, 0, to));
-            }
-        }
+        endsAlone("to", (x, to) -> x.exception(0, NONE, to));
+        endsAlone("to, from an IN", (x, to) -> x.exception(2, 0, to));
     }
 
     // ---- promise 11

@@ -138,6 +138,31 @@ public final class Promises17To18Test extends Sentences {
         arrivesNowhere(x, 1, 0);
     }
 
+    @Sentence(promise = 17, says = "NODES: at most 16, numbered from 0")
+    static void aFullChipKeepsAllApart() {
+        // The FLOPS 0 to 7 with the WIRES 0.0 to 1.75; the XORS 8 to 14, in a row, take in 0 and 1, 2, 3 up to 7.
+        SlackHall x = clocked();
+        for (int start = 0; start < 8; start++) {
+            x.node(FLOP, 0, 0, 0);
+            x.wire(start, start);
+        }
+        x.node(XOR, 0, 1, 0);
+        for (int gate = 9; gate < 15; gate++) {
+            x.node(XOR, gate - 1, gate - 7, 0);
+        }
+        x.node(OUT, 14, 0, 0);
+        for (int start = 0; start < 8; start++) {
+            int first = start < 2 ? 8 : start + 7;
+            for (int gate = 8; gate < 15; gate++) {
+                // A FLOP takes 3.125 and 0.0625 for each quarter, a XOR 1.375, but the last one 1.75.
+                double due = 3.125 + start * 0.0625 + (gate - first + 1) * 1.375 + (gate == 14 ? 0.375 : 0.0);
+                same("of " + start + " at " + gate, x.arrival(start, gate, 0, true, true), gate < first ? -1.0 : due);
+            }
+            same("of " + start + " at the OUT", x.arrival(start, 15, 0, true, true), -1.0);
+        }
+        same("pairs", x.many(4), 8);
+    }
+
     @Sentence(promise = 17, says = "Throws IndexOutOfBoundsException if there is no such NODE, of both, or CORNER")
     static void startNodeAndCornerMustBeThere() {
         numbers(Sentences::kinds, "start", 0, 9, (x, start) -> x.arrival(start, 0, 0, true, true));
@@ -160,15 +185,8 @@ public final class Promises17To18Test extends Sentences {
 
     @Sentence(promise = 17, says = "Throws IllegalArgumentException if start is no START")
     static void theStartIsAStart() {
-        for (int kind = 0; kind <= 8; kind++) {
-            int start = kind;
-            if (kind == IN || kind == FLOP || kind == LATCH) {
-                fits(Sentences::kinds, "kind " + kind, x -> x.arrival(start, 1, 0, true, true));
-            } else {
-                isArgument(Sentences::kinds, "kind " + kind, x -> x.arrival(start, 1, 0, true, true));
-                isArgument(Sentences::kinds, "kind " + kind + " itself", x -> x.arrival(start, start, 0, true, true));
-            }
-        }
+        startsAlone("start", (x, start) -> x.arrival(start, 1, 0, true, true));
+        startsAlone("start at itself", (x, start) -> x.arrival(start, start, 0, false, false));
     }
 
     // ---- promise 18
@@ -283,19 +301,8 @@ public final class Promises17To18Test extends Sentences {
     @Sentence(promise = 18, says = "Throws IllegalArgumentException if start is no START,"
             + " or end is no FLOP, LATCH or OUT")
     static void startAndEndAreSuch() {
-        for (int kind = 0; kind <= 8; kind++) {
-            int node = kind;
-            if (kind >= BUF && kind <= XOR || kind == OUT) {
-                isArgument(Sentences::kinds, "start of kind " + kind, x -> x.winner(node, 7));
-            } else {
-                fits(Sentences::kinds, "start of kind " + kind, x -> x.winner(node, 7));
-            }
-            if (kind < FLOP) {
-                isArgument(Sentences::kinds, "end of kind " + kind, x -> x.winner(0, node));
-            } else {
-                fits(Sentences::kinds, "end of kind " + kind, x -> x.winner(0, node));
-            }
-        }
+        startsAlone("start", (x, start) -> x.winner(start, 7));
+        endsAlone("end", (x, end) -> x.winner(0, end));
     }
 
     public static void main(String[] args) throws IOException, IllegalAccessException {

@@ -194,6 +194,11 @@ public final class Promises19To21Test extends Sentences {
     @Sentence(promise = 19, says = "What is left there for the late is so much more for each START for which"
             + " something lacks, but 0.0 at most; for the others it stays.")
     static void whatIsLentIsMoreUpToNothing() {
+        SlackHall y = lenderOfTwo(14);
+        y.wire(2, 61);
+        // The XOR takes 6.40625: of 6.5 is left 0.09375 for the first, and lacks 0.90625 for the second.
+        same("hardly more than nothing stays", y.left(0, 3, 0, true), 0.09375);
+        same("what lacks is lent", y.left(1, 3, 0, true), 0.0);
         int[] skews = {5, 6, 7, 13, 14, 15, 17, 18, 19};
         double[] firsts = {-0.25, 0.0, 0.0, 0.0, 0.0, 0.25, 0.75, 1.0, 1.25};
         double[] seconds = {-1.25, -1.0, -0.75, 0.0, 0.0, 0.0, 0.0, 0.0, 0.25};
@@ -221,19 +226,8 @@ public final class Promises19To21Test extends Sentences {
     @Sentence(promise = 19, says = "Throws IllegalArgumentException if start is no START,"
             + " or end is no FLOP, LATCH or OUT")
     static void startAndEndAreSuch() {
-        for (int kind = 0; kind <= 8; kind++) {
-            int node = kind;
-            if (kind >= BUF && kind <= XOR || kind == OUT) {
-                isArgument(Sentences::kinds, "start of kind " + kind, x -> x.left(node, 7, 0, true));
-            } else {
-                fits(Sentences::kinds, "start of kind " + kind, x -> x.left(node, 7, 0, true));
-            }
-            if (kind < FLOP) {
-                isArgument(Sentences::kinds, "end of kind " + kind, x -> x.left(0, node, 0, true));
-            } else {
-                fits(Sentences::kinds, "end of kind " + kind, x -> x.left(0, node, 0, true));
-            }
-        }
+        startsAlone("start", (x, start) -> x.left(start, 7, 0, true));
+        endsAlone("end", (x, end) -> x.left(0, end, 0, true));
     }
 
     // ---- promise 20
@@ -266,6 +260,39 @@ public final class Promises19To21Test extends Sentences {
         same("not any more", x.leftAt(6, 0, true), 9.0 - 3.375);
     }
 
+    @Sentence(promise = 20, says = "NODES: at most 16, numbered from 0")
+    static void aFullRingOfFlops() {
+        // Each FLOP is fed by the one before, and the first by the last; SKEWS are their numbers' quarters.
+        SlackHall x = clocked();
+        x.corner(12, 4);
+        x.corner(16, 1);
+        for (int flop = 0; flop < 16; flop++) {
+            x.node(FLOP, 0, 0, 0);
+            x.skew(flop, flop);
+            x.wire(flop, flop % 8);
+        }
+        for (int flop = 0; flop < 16; flop++) {
+            x.feed(flop, (flop + 15) % 16);
+        }
+        double[] lates = {1.0, 1.5, 2.0};
+        double[] earlies = {1.0, 0.5, 0.125};
+        for (int end = 0; end < 16; end++) {
+            int start = (end + 15) % 16;
+            double takes = 3.125 + 0.0625 * (start % 8);
+            for (int corner = 0; corner < 3; corner++) {
+                double late = lates[corner];
+                double early = earlies[corner];
+                same("late at " + end + " in " + corner, x.leftAt(end, corner, true),
+                        9.0 + end * 0.25 * early - start * 0.25 * late - late * takes);
+                same("early at " + end + " in " + corner, x.leftAt(end, corner, false),
+                        0.75 * early * takes + start * 0.25 * early - end * 0.25 * late - 0.5);
+            }
+            same("worst of " + end, x.worst(end, 0), start);
+            same("behind it", x.worst(end, 1), NONE);
+        }
+        same("pairs", x.many(4), 16);
+    }
+
     @Sentence(promise = 20, says = "Throws IndexOutOfBoundsException if there is no such NODE, or CORNER")
     static void endAndCornerMustBeThere() {
         numbers(Sentences::kinds, "end", 0, 9, (x, end) -> x.leftAt(end, 0, true));
@@ -276,14 +303,8 @@ public final class Promises19To21Test extends Sentences {
 
     @Sentence(promise = 20, says = "Throws IllegalArgumentException if end is no FLOP, LATCH or OUT")
     static void theEndIsSuch() {
-        for (int kind = 0; kind <= 8; kind++) {
-            int end = kind;
-            if (kind < FLOP) {
-                isArgument(Sentences::kinds, "kind " + kind, x -> x.leftAt(end, 0, true));
-            } else {
-                fits(Sentences::kinds, "kind " + kind, x -> x.leftAt(end, 0, true));
-            }
-        }
+        endsAlone("late end", (x, end) -> x.leftAt(end, 0, true));
+        endsAlone("early end", (x, end) -> x.leftAt(end, 0, false));
     }
 
     // ---- promise 21
@@ -312,6 +333,10 @@ public final class Promises19To21Test extends Sentences {
         same("of the first alone", x.borrow(3, 0), 0.25);
         x.exception(0, 0, 3);
         same("of none", x.borrow(3, 0), 0.0);
+        SlackHall y = lenderOfTwo(0);
+        same("of both, with more that lacks", y.left(1, 3, 0, true), -2.5);
+        y.exception(0, NONE, 3);
+        same("of none any more", y.borrow(3, 0), 0.0);
     }
 
     @Sentence(promise = 21, says = "but 0.5 times its CLOCK's PERIOD at most")

@@ -89,19 +89,8 @@ public final class Promises22To25Test extends Sentences {
     @Sentence(promise = 22, says = "Throws IllegalArgumentException if start is no START,"
             + " or end is no FLOP, LATCH or OUT")
     static void startAndEndAreSuch() {
-        for (int kind = 0; kind <= 8; kind++) {
-            int node = kind;
-            if (kind >= BUF && kind <= XOR || kind == OUT) {
-                isArgument(Sentences::kinds, "start of kind " + kind, x -> x.ways(node, 7));
-            } else {
-                fits(Sentences::kinds, "start of kind " + kind, x -> x.ways(node, 7));
-            }
-            if (kind < FLOP) {
-                isArgument(Sentences::kinds, "end of kind " + kind, x -> x.ways(0, node));
-            } else {
-                fits(Sentences::kinds, "end of kind " + kind, x -> x.ways(0, node));
-            }
-        }
+        startsAlone("start", (x, start) -> x.ways(start, 7));
+        endsAlone("end", (x, end) -> x.ways(0, end));
     }
 
     // ---- promise 23
@@ -244,11 +233,8 @@ public final class Promises22To25Test extends Sentences {
     static void backIsZeroToFifteen() {
         bounds(Sentences::kinds, "back", 0, 15, (x, back) -> x.worst(7, back));
         bounds(Sentences::kinds, "back without FEED", 0, 15, (x, back) -> x.worst(6, back));
-        for (int kind = 0; kind < FLOP; kind++) {
-            int end = kind;
-            isArgument(Sentences::kinds, "kind " + kind, x -> x.worst(end, 0));
-        }
-        fits(Sentences::kinds, "an OUT", x -> x.worst(8, 15));
+        endsAlone("end, 0 back", (x, end) -> x.worst(end, 0));
+        endsAlone("end, 15 back", (x, end) -> x.worst(end, 15));
     }
 
     // ---- promise 24
@@ -292,6 +278,25 @@ public final class Promises22To25Test extends Sentences {
         y.clock(10, 0, 0, 1);
         inToFlop(y, 0, 1);
         same("unlike groups", y.many(4), 0);
+        same("an END with the number 0", ring().many(4), 1);
+        same("8 STARTS and 9 ENDS of 16 NODES", flopsOfAll().many(4), 72);
+    }
+
+    /** The FLOPS 0 to 7, the XORS 8 to 14 that take them in one by one, the LATCH 15; 14 feeds it and each FLOP. */
+    private static SlackHall flopsOfAll() {
+        SlackHall x = clocked();
+        for (int flop = 0; flop < 8; flop++) {
+            x.node(FLOP, 0, 0, 0);
+        }
+        x.node(XOR, 0, 1, 0);
+        for (int gate = 9; gate < 15; gate++) {
+            x.node(XOR, gate - 1, gate - 7, 0);
+        }
+        x.node(LATCH, 14, 0, 0);
+        for (int flop = 0; flop < 8; flop++) {
+            x.feed(flop, 14);
+        }
+        return x;
     }
 
     @Sentence(promise = 24, says = "5 ENDS with leftAt() for the late of less than 0.0 in some CORNER")
@@ -310,6 +315,8 @@ public final class Promises22To25Test extends Sentences {
         same("in the corner 1 alone", y.many(5), 1);
         y.exception(0, NONE, NONE);
         same("nothing is checked", y.many(5), 0);
+        // From 0: 3.375, 6 XORS with 1.375 and one with 2.5625, in all 14.1875; the LATCH borrows 5.0 alone.
+        same("9 ENDS of 16 NODES, the first and the last, too", flopsOfAll().many(5), 9);
     }
 
     @Sentence(promise = 24, says = "6 likewise for the early")
@@ -330,6 +337,22 @@ public final class Promises22To25Test extends Sentences {
         }
     }
 
+    @Sentence(promise = 24, says = "6 likewise for the early")
+    static void theFirstAndTheLastEndCount() {
+        SlackHall x = clocked();
+        x.corner(8, 1);
+        x.node(FLOP, 0, 0, 0);
+        x.feed(0, 0);
+        // 0.75 times 3.375 by 8, less 0.5.
+        same("the first, early", x.many(6), 1);
+        same("the first, late", x.many(5), 0);
+        for (int node = 1; node < 15; node++) {
+            x.node(IN, 0, 0, 0);
+        }
+        x.node(LATCH, 14, 0, 0);
+        same("the last, early", x.many(6), 2);
+    }
+
     @Sentence(promise = 24, says = "A CROSSING is a START and an END of unlike GROUPS with an ARRIVAL there.")
     static void crossingsNeedUnlikeGroups() {
         SlackHall x = clocked();
@@ -347,6 +370,13 @@ public final class Promises22To25Test extends Sentences {
         same("a FALSE one does not matter", x.many(7), 2);
         x.feed(1, 1);
         same("not 1 and 1", x.many(7), 1);
+        SlackHall y = clocked();
+        y.clock(10, 0, 0, 1);
+        y.node(FLOP, 0, 0, 0);
+        y.node(FLOP, 0, 0, 1);
+        y.feed(0, 1);
+        same("from the last to the first", y.many(7), 1);
+        same("which is SAFE", y.many(8), 1);
     }
 
     @Sentence(promise = 24, says = "It is SAFE, if both are FLOPS, and the START is the FEED of the END.")

@@ -288,6 +288,38 @@ public final class Promises26To29Test extends Sentences {
         areIdle("less for the early of the OUT", x, true, false, false);
     }
 
+    @Sentence(promise = 28, says = "for the late and for the early")
+    static void lessForOneOfBothAlone() {
+        for (int which = 0; which < 2; which++) {
+            SlackHall x = clocked();
+            x.corner(which == 0 ? 9 : 8, which == 0 ? 8 : 7);
+            x.node(FLOP, 0, 0, 0);
+            x.feed(0, 0);
+            areIdle("the END 0, less in case " + which, x, true, false);
+        }
+    }
+
+    @Sentence(promise = 28, says = "NODES: at most 16, numbered from 0")
+    static void theLastOfSixteenNodesCounts() {
+        SlackHall x = clocked();
+        x.corner(9, 8);
+        inToFlop(x, 0, 0);
+        for (int node = 2; node < 15; node++) {
+            x.node(BUF, 0, 0, 0);
+        }
+        areIdle("15 NODES", x, false, true);
+        x.node(OUT, 14, 0, 0);
+        areIdle("16 NODES", x, true, false);
+        areIdle("the longest chip", longestInTwoCorners(), true, false);
+    }
+
+    private static SlackHall longestInTwoCorners() {
+        SlackHall x = longest();
+        x.feed(0, 15);
+        x.corner(16, 1);
+        return x;
+    }
+
     @Sentence(promise = 28, says = "Throws IndexOutOfBoundsException if there is no such CORNER")
     static void theCornerMustBeThere() {
         numbers(SlackHall::new, "corner of one", 0, 1, (x, corner) -> x.isIdle(corner));

@@ -117,6 +117,27 @@ class Sentences {
         }
     }
 
+    /** Of a NODE of each KIND, those that are STARTS are taken, and no other. */
+    static void startsAlone(String what, NumberCall call) {
+        kindsAlone(what, new boolean[] {true, false, false, false, false, false, true, true, false}, call);
+    }
+
+    /** Of a NODE of each KIND, those that are ENDS, or would be with a FEED, are taken, and no other. */
+    static void endsAlone(String what, NumberCall call) {
+        kindsAlone(what, new boolean[] {false, false, false, false, false, false, true, true, true}, call);
+    }
+
+    private static void kindsAlone(String what, boolean[] fit, NumberCall call) {
+        for (int kind = IN; kind <= OUT; kind++) {
+            int node = kind;
+            if (fit[kind]) {
+                fits(Sentences::kinds, what + " of kind " + kind, x -> call.on(x, node));
+            } else {
+                isArgument(Sentences::kinds, what + " of kind " + kind, x -> call.on(x, node));
+            }
+        }
+    }
+
     /** The call throws just that, and leaves all as it is in a twin that was never so called. */
     private static void refused(Class<?> want, Maker maker, String what, Call call) {
         List<Ask> asks = allAsks(maker.make());
@@ -370,6 +391,10 @@ class Sentences {
 
     /** Each test quotes the document, and each line of it that tells of a throw is quoted. */
     private static void mustQuote(List<Method> methods, int first, int last) throws IOException {
+        if (!Files.exists(DOCUMENT)) {
+            System.out.println("there is no " + DOCUMENT + ": no quote was looked up");
+            return;
+        }
         String[] parts = Files.readString(DOCUMENT).replace("`", "").split("## Promise ");
         String whole = plain(String.join(" ", parts));
         for (Method method : methods) {
